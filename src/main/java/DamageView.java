@@ -213,7 +213,10 @@ public final class DamageView {
     }
 
     private static int nearest(int wanted, int least, int most) {
-        return Math.max(least, Math.min(wanted, most));
+        if (wanted < least) {
+            return least;
+        }
+        return wanted > most ? most : wanted;
     }
 
     private static boolean isNear(int number) {
@@ -677,7 +680,7 @@ public final class DamageView {
             if (difference >= rise[q][p]) {
                 return;
             }
-            if (difference < lowest(p, q)) {
+            if (difference < -rise[p][q]) {
                 conflict = true;
                 return;
             }

@@ -14,6 +14,7 @@ public final class AttentionTest {
         key();
         attentionEndsWithTheArea();
         count();
+        countSixDeep();
         CHECK.end();
     }
 
@@ -164,6 +165,12 @@ public final class AttentionTest {
         view.suggest(9, 6);
         CHECK.due("step(false), an empty area", view.step(false), -1);
         CHECK.due("step(true), an empty area", view.step(true), -1);
+        view.hide(3, false);
+        view.box(1, 0);
+        CHECK.due("step(true), a new box has no area", view.step(true), 3);
+        view.hide(3, true);
+        Check.spread(view, 5, 20, 22, 9, 11);
+        CHECK.due("step(false), only the last box", view.step(false), 5);
         DamageView bare = new DamageView(3, 3);
         CHECK.due("step(false), window alone", bare.step(false), -1);
         CHECK.due("step(true), window alone", bare.step(true), -1);
@@ -225,5 +232,22 @@ public final class AttentionTest {
         CHECK.due("count(-1)", view.count(-1), -1);
         CHECK.due("count(MAX)", view.count(Integer.MAX_VALUE), -1);
         CHECK.due("count(MIN)", view.count(Integer.MIN_VALUE), -1);
+    }
+
+    private static void countSixDeep() {
+        CHECK.part("promise 17, each box in the one before");
+        DamageView view = new DamageView(24, 16);
+        for (int box = 1; box <= 5; box++) {
+            view.box(2, box - 1);
+            Check.spread(view, box, 0, 24 - box, 0, 16);
+        }
+        view.press(0, 0);
+        CHECK.due("release(0, 0)", view.release(0, 0), 5);
+        for (int box = 0; box <= 5; box++) {
+            CHECK.due("count(" + box + ")", view.count(box), 1);
+        }
+        view.paint();
+        CHECK.due("pixel(0, 0), on", view.pixel(0, 0), 6 + 8 + 16);
+        CHECK.due("pixel(19, 0): a switch that it is in stays off", view.pixel(19, 0), 5);
     }
 }

@@ -15,6 +15,7 @@ public final class BoxesTest {
         raiseWithChildren();
         raiseRefused();
         hit();
+        hitSixDeep();
         hitOutside();
         CHECK.end();
     }
@@ -226,6 +227,19 @@ public final class BoxesTest {
         CHECK.due("hit(6, 4), outside the parent", view.hit(6, 4), 0);
         CHECK.due("hit(5, 2), outside the parent", view.hit(5, 2), 0);
         CHECK.due("hit(5, 5)", view.hit(5, 5), 1);
+    }
+
+    private static void hitSixDeep() {
+        CHECK.part("promise 11, each box in the one before");
+        DamageView view = new DamageView(24, 16);
+        for (int box = 1; box <= 5; box++) {
+            view.box(0, box - 1);
+            Check.spread(view, box, box, 24, box, 16);
+        }
+        for (int box = 0; box <= 5; box++) {
+            CHECK.due("hit(" + box + ", 15)", view.hit(box, 15), box);
+        }
+        CHECK.due("hit(23, 15)", view.hit(23, 15), 5);
     }
 
     private static void hitOutside() {
