@@ -6,13 +6,21 @@ public final class AttentionTest {
         press();
         pressOnNothing();
         pressRefused();
+        pressTakesTheFocusAway();
+        pressAfterAPressOnNothing();
         release();
         releaseElsewhere();
+        releaseWhereItIsThen();
+        releaseOfABoxWithoutFocus();
         releaseRefused();
         step();
         stepOverThoseThatCannot();
+        stepRoundTheEnds();
+        stepWhilePressed();
         key();
+        keyOfAFocusThatIsLost();
         attentionEndsWithTheArea();
+        attentionOfEachPair();
         count();
         countSixDeep();
         CHECK.end();
@@ -249,5 +257,152 @@ public final class AttentionTest {
         view.paint();
         CHECK.due("pixel(0, 0), on", view.pixel(0, 0), 6 + 8 + 16);
         CHECK.due("pixel(19, 0): a switch that it is in stays off", view.pixel(19, 0), 5);
+    }
+
+    private static void pressTakesTheFocusAway() {
+        CHECK.part("promise 12, \"there is no FOCUS then\"");
+        int[][] points = {{1, 1}, {0, 0}, {23, 15}, {24, 15}, {-1, -1}};
+        int[] hits = {1, 0, 0, -1, -1};
+        for (int i = 0; i < points.length; i++) {
+            DamageView view = sideBySide();
+            view.step(true);
+            view.step(true);
+            view.paint();
+            CHECK.due("press", view.press(points[i][0], points[i][1]), hits[i]);
+            CHECK.due("attention()", view.attention(), 0);
+            CHECK.due("damage() of the focus lost", view.damage(), 16);
+            CHECK.due("paint()", view.paint(), 16);
+            CHECK.due("pixel(11, 1)", view.pixel(11, 1), 4);
+            CHECK.due("step(false), from the first again", view.step(false), 2);
+        }
+    }
+
+    private static void pressAfterAPressOnNothing() {
+        CHECK.part("promise 12, none is pressed by a press on what can't");
+        DamageView view = sideBySide();
+        CHECK.due("press(1, 1)", view.press(1, 1), 1);
+        CHECK.due("press(-1, 0)", view.press(-1, 0), -1);
+        CHECK.due("press(6, 1)", view.press(6, 1), 2);
+        CHECK.due("press(-1, 0)", view.press(-1, 0), -2);
+        view.hide(2, true);
+        CHECK.due("press(6, 1), the pressed one is gone", view.press(6, 1), 0);
+    }
+
+    private static void releaseWhereItIsThen() {
+        CHECK.part("promise 13, \"if it is the one that is hit\"");
+        DamageView view = sideBySide();
+        view.press(11, 1);
+        Check.spread(view, 1, 11, 15, 1, 5);
+        view.raise(1);
+        CHECK.due("release(11, 1), covered meanwhile", view.release(11, 1), -1);
+        CHECK.due("count(3)", view.count(3), 0);
+        view.raise(3);
+        view.press(11, 1);
+        view.suggest(13, 20);
+        view.suggest(12, 18);
+        CHECK.due("release(11, 1), moved away meanwhile", view.release(11, 1), -1);
+        view.press(19, 4);
+        view.suggest(12, 11);
+        CHECK.due("release(12, 1), where it is meanwhile", view.release(12, 1), 3);
+        CHECK.due("count(3)", view.count(3), 1);
+        view.press(11, 1);
+        CHECK.due("release(24, 16)", view.release(24, 16), -1);
+        CHECK.due("release(11, 1), too late", view.release(11, 1), -2);
+        CHECK.due("count(0)", view.count(0), 1);
+    }
+
+    private static void releaseOfABoxWithoutFocus() {
+        CHECK.part("promise 13, the focus stays where it is");
+        DamageView view = sideBySide();
+        view.press(6, 1);
+        view.step(false);
+        view.paint();
+        CHECK.due("release(0, 0)", view.release(0, 0), -1);
+        CHECK.due("attention()", view.attention(), 4);
+        CHECK.due("damage() of the pressed one", view.damage(), 16);
+        CHECK.due("paint(), but for its child", view.paint(), 12);
+        CHECK.due("pixel(6, 1)", view.pixel(6, 1), 3);
+    }
+
+    private static void stepRoundTheEnds() {
+        CHECK.part("promise 14, \"after the last (before the first) round to the first (last) one\"");
+        DamageView view = new DamageView(24, 16);
+        for (int box = 1; box <= 5; box++) {
+            view.box(1 + box % 2, 0);
+            Check.spread(view, box, box, box + 1, 0, 1);
+        }
+        CHECK.due("step(true), no focus", view.step(true), 5);
+        CHECK.due("step(false), after the last", view.step(false), 1);
+        CHECK.due("step(true), before the first", view.step(true), 5);
+        view.hide(5, true);
+        CHECK.due("attention()", view.attention(), 0);
+        CHECK.due("step(true), no focus", view.step(true), 4);
+        view.hide(1, true);
+        CHECK.due("step(false), after the last that can", view.step(false), 2);
+        CHECK.due("step(true), before the first that can", view.step(true), 4);
+        view.raise(2);
+        CHECK.due("step(true): by number, not by order", view.step(true), 3);
+        view.press(-1, 0);
+        CHECK.due("step(false), no focus", view.step(false), 2);
+        for (int box = 2; box <= 4; box++) {
+            view.hide(box, true);
+        }
+        CHECK.due("step(false), none can", view.step(false), -1);
+        CHECK.due("step(true), none can", view.step(true), -1);
+        CHECK.due("attention()", view.attention(), 0);
+    }
+
+    private static void stepWhilePressed() {
+        CHECK.part("promise 14, while one is pressed");
+        DamageView view = sideBySide();
+        view.press(6, 1);
+        CHECK.due("step(true)", view.step(true), 4);
+        CHECK.due("attention()", view.attention(), 5 + 8 * 3);
+        CHECK.due("step(false)", view.step(false), 2);
+        CHECK.due("attention()", view.attention(), 3 + 8 * 3);
+        view.step(false);
+        CHECK.due("release(6, 1)", view.release(6, 1), 2);
+        CHECK.due("attention()", view.attention(), 4);
+        CHECK.due("count(2)", view.count(2), 1);
+        CHECK.due("count(3)", view.count(3), 0);
+    }
+
+    private static void keyOfAFocusThatIsLost() {
+        CHECK.part("promise 15, \"-1 if there is none\"");
+        DamageView view = sideBySide();
+        view.press(11, 1);
+        CHECK.due("key(), also while it is pressed", view.key(), 3);
+        view.paint();
+        CHECK.due("pixel(11, 1)", view.pixel(11, 1), 4 + 8 + 16 + 32);
+        view.hide(3, true);
+        CHECK.due("key(), hidden", view.key(), -1);
+        view.hide(3, false);
+        CHECK.due("key(), shown again", view.key(), -1);
+        CHECK.due("count(3)", view.count(3), 1);
+        CHECK.due("count(0)", view.count(0), 1);
+        view.paint();
+        CHECK.due("pixel(11, 1), on still", view.pixel(11, 1), 4 + 8);
+    }
+
+    private static void attentionOfEachPair() {
+        CHECK.part("promise 16, \"each with 1 added (0 for none)\"");
+        for (int pressed = 1; pressed <= 5; pressed++) {
+            DamageView view = new DamageView(24, 16);
+            for (int box = 1; box <= 5; box++) {
+                view.box(1, 0);
+                Check.spread(view, box, box, box + 1, 0, 1);
+            }
+            view.press(pressed, 0);
+            for (int steps = 0; steps < 5; steps++) {
+                int focus = (pressed - 1 + steps) % 5 + 1;
+                CHECK.due("attention()", view.attention(), focus + 1 + 8 * (pressed + 1));
+                view.step(false);
+            }
+            view.step(false);
+            view.hide(pressed % 5 + 1, true);
+            CHECK.due("attention(), no focus", view.attention(), 8 * (pressed + 1));
+            view.release(-1, 0);
+            CHECK.due("attention(), none", view.attention(), 0);
+        }
     }
 }

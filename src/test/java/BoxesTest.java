@@ -5,18 +5,24 @@ public final class BoxesTest {
     public static void main(String[] args) {
         newObject();
         newObjectOfNearestSize();
+        newObjectOfOneNearestSide();
         box();
         boxRefused();
         boxIsLastInOrder();
+        boxIsNotHidden();
+        boxWhileOthersAreHeld();
         hide();
         hideParent();
         hideRefused();
         raise();
         raiseWithChildren();
+        raiseDamagesItsAreaAlone();
+        raiseUntilItIsTheLast();
         raiseRefused();
         hit();
         hitSixDeep();
         hitOutside();
+        hitOfEachPoint();
         CHECK.end();
     }
 
@@ -255,5 +261,114 @@ public final class BoxesTest {
         CHECK.due("hit(24, 16)", view.hit(24, 16), -1);
         CHECK.due("hit(MAX, 0)", view.hit(Integer.MAX_VALUE, 0), -1);
         CHECK.due("hit(0, MIN)", view.hit(0, Integer.MIN_VALUE), -1);
+    }
+
+    private static void newObjectOfOneNearestSide() {
+        CHECK.part("promise 1, one side out of bounds");
+        int[][] asked = {{0, 5}, {-7, 16}, {25, 5}, {99, 1}, {5, 0}, {24, -7}, {5, 17}, {1, 99}, {2, 15}, {23, 2}};
+        int[][] due = {{1, 5}, {1, 16}, {24, 5}, {24, 1}, {5, 1}, {24, 1}, {5, 16}, {1, 16}, {2, 15}, {23, 2}};
+        for (int i = 0; i < asked.length; i++) {
+            DamageView view = new DamageView(asked[i][0], asked[i][1]);
+            int width = due[i][0];
+            int height = due[i][1];
+            CHECK.places(view, 0, 0, width, 0, height);
+            CHECK.due("damage()", view.damage(), width * height);
+            CHECK.due("hit at the last point", view.hit(width - 1, height - 1), 0);
+            CHECK.due("hit right of it", view.hit(width, height - 1), -1);
+            CHECK.due("hit below it", view.hit(width - 1, height), -1);
+            CHECK.due("constrain", view.constrain(1, 0, width, 0, 0), 0);
+            CHECK.due("suggest(3, 8)", view.suggest(3, 8), true);
+            CHECK.places(view, 0, 0, width, 0, height);
+        }
+    }
+
+    private static void boxIsNotHidden() {
+        CHECK.part("promise 2, not hidden, also in a hidden parent");
+        DamageView view = new DamageView(24, 16);
+        view.box(0, 0);
+        Check.spread(view, 1, 0, 9, 0, 9);
+        view.hide(1, true);
+        view.paint();
+        CHECK.due("box(1, 1)", view.box(1, 1), 2);
+        CHECK.due("hide(2, false)", view.hide(2, false), false);
+        Check.spread(view, 2, 0, 4, 0, 4);
+        CHECK.due("hit(0, 0)", view.hit(0, 0), 0);
+        CHECK.due("damage()", view.damage(), 0);
+        view.hide(1, false);
+        CHECK.due("hit(0, 0)", view.hit(0, 0), 2);
+    }
+
+    private static void boxWhileOthersAreHeld() {
+        CHECK.part("promise 2, no solving and no change of another box");
+        DamageView view = new DamageView(24, 16);
+        view.box(1, 0);
+        Check.spread(view, 1, 2, 6, 3, 8);
+        view.constrain(4, 0, 1, 0, 1);
+        view.press(4, 4);
+        view.suggest(4, 4);
+        view.paint();
+        CHECK.due("box(2, 1)", view.box(2, 1), 2);
+        CHECK.places(view, 1, 4, 6, 3, 8);
+        CHECK.places(view, 2, 0, 0, 0, 0);
+        CHECK.due("attention()", view.attention(), 2 + 8 * 2);
+        CHECK.due("damage()", view.damage(), 0);
+        CHECK.due("hit(0, 0): its area is empty", view.hit(0, 0), 0);
+    }
+
+    private static void raiseDamagesItsAreaAlone() {
+        CHECK.part("promise 10, damage");
+        DamageView view = new DamageView(24, 16);
+        view.box(0, 0);
+        view.box(0, 1);
+        view.box(0, 0);
+        view.box(0, 0);
+        Check.spread(view, 1, 2, 6, 2, 6);
+        Check.spread(view, 2, 0, 24, 5, 16);
+        Check.spread(view, 3, 4, 10, 4, 10);
+        view.paint();
+        CHECK.due("raise(1)", view.raise(1), true);
+        CHECK.due("damage(): as much of its child as is in it", view.damage(), 16);
+        CHECK.due("paint()", view.paint(), 4);
+        CHECK.due("raise(4), an empty area", view.raise(4), true);
+        CHECK.due("damage()", view.damage(), 0);
+        CHECK.due("raise(4) again", view.raise(4), false);
+        view.hide(1, true);
+        view.paint();
+        CHECK.due("raise(1), hidden", view.raise(1), true);
+        CHECK.due("damage()", view.damage(), 0);
+        view.hide(1, false);
+        CHECK.due("hit(4, 4): it was raised all the same", view.hit(4, 4), 1);
+    }
+
+    private static void raiseUntilItIsTheLast() {
+        CHECK.part("promise 10, \"the last already\"");
+        DamageView view = new DamageView(24, 16);
+        int[] parents = {0, 0, 1, 1, 0};
+        for (int parent : parents) {
+            view.box(0, parent);
+        }
+        int[] raised = {5, 4, 3, 3, 4, 1, 1, 5, 2, 5, 4, 3};
+        boolean[] due = {false, false, true, false, true, true, false, true, true, true, false, true};
+        for (int i = 0; i < raised.length; i++) {
+            CHECK.due("raise(" + raised[i] + "), the call with index " + i, view.raise(raised[i]), due[i]);
+        }
+    }
+
+    private static void hitOfEachPoint() {
+        CHECK.part("promise 11, each point");
+        DamageView view = new DamageView(9, 7);
+        view.box(0, 0);
+        view.box(0, 0);
+        Check.spread(view, 1, 1, 5, 1, 4);
+        Check.spread(view, 2, 3, 7, 2, 6);
+        for (int y = -1; y <= 16; y++) {
+            for (int x = -1; x <= 24; x++) {
+                boolean inFirst = x >= 1 && x < 5 && y >= 1 && y < 4;
+                boolean inSecond = x >= 3 && x < 7 && y >= 2 && y < 6;
+                boolean inWindow = x >= 0 && x < 9 && y >= 0 && y < 7;
+                int due = inSecond ? 2 : inFirst ? 1 : inWindow ? 0 : -1;
+                CHECK.due("hit(" + x + ", " + y + ")", view.hit(x, y), due);
+            }
+        }
     }
 }

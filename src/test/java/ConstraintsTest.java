@@ -8,18 +8,26 @@ public final class ConstraintsTest {
         constrainByNumber();
         constrainRefused();
         constrainTooMany();
+        constrainRefusalsInTheirOrder();
         constrainConflict();
         edgesStayByNumber();
         remove();
         removeRefused();
+        removeKeepsTheOtherNumbers();
         suggest();
         suggestCountsOnce();
+        suggestIsForgottenByEachSolving();
+        suggestAtItsBounds();
         suggestRefused();
         resize();
         resizeRefused();
         resizeConflict();
+        resizeLasts();
+        resizeAtItsBounds();
+        resizeConflictOfOneSide();
         place();
         error();
+        errorOfATakenNumber();
         CHECK.end();
     }
 
@@ -314,5 +322,150 @@ public final class ConstraintsTest {
         CHECK.due("error(16)", view.error(16), -1);
         CHECK.due("error(MAX)", view.error(Integer.MAX_VALUE), -1);
         CHECK.due("error(MIN)", view.error(Integer.MIN_VALUE), -1);
+    }
+
+    private static void constrainRefusalsInTheirOrder() {
+        CHECK.part("promise 3, \"then -2\", \"then -3\"");
+        DamageView view = withBoxes(20, 12, 1);
+        CHECK.due("wrong, and a conflict", view.constrain(4, 5, 100, 1, 0), -1);
+        CHECK.due("a conflict", view.constrain(4, 5, 99, 1, 0), -3);
+        for (int number = 0; number < 15; number++) {
+            view.constrain(6, 2, 0, 1, 3);
+        }
+        CHECK.due("a conflict with fifteen", view.constrain(4, 5, 99, 1, 0), -3);
+        CHECK.due("the sixteenth", view.constrain(6, 2, 0, 1, 3), 15);
+        CHECK.due("wrong, too many and a conflict", view.constrain(4, 5, 100, 1, 0), -1);
+        CHECK.due("too many and a conflict", view.constrain(4, 5, 99, 1, 0), -2);
+        CHECK.due("wrong and too many", view.constrain(6, 2, 0, 1, 4), -1);
+        CHECK.due("too many", view.constrain(6, 2, 0, 1, 3), -2);
+    }
+
+    private static void removeKeepsTheOtherNumbers() {
+        CHECK.part("promise 4, numbers");
+        DamageView view = withBoxes(20, 12, 1);
+        for (int number = 0; number < 16; number++) {
+            view.constrain(4, 0, number, 0, 3);
+        }
+        CHECK.due("remove(0)", view.remove(0), true);
+        CHECK.due("place(4), solved again", view.place(4), 1);
+        CHECK.due("remove(15)", view.remove(15), true);
+        CHECK.due("remove(15) again", view.remove(15), false);
+        CHECK.due("error(14)", view.error(14), 13);
+        CHECK.due("error(15)", view.error(15), -1);
+        for (int number = 1; number < 15; number++) {
+            CHECK.due("place(4)", view.place(4), number);
+            CHECK.due("remove(" + number + ")", view.remove(number), true);
+        }
+        CHECK.due("place(4), where it was", view.place(4), 14);
+        CHECK.due("remove(0), none is left", view.remove(0), false);
+        CHECK.due("the next number", view.constrain(4, 0, 3, 0, 3), 0);
+    }
+
+    private static void suggestIsForgottenByEachSolving() {
+        CHECK.part("promise 5, \"that counts for this once\"");
+        for (int way = 0; way < 5; way++) {
+            DamageView view = withBoxes(20, 12, 1);
+            view.constrain(4, 0, 2, 0, 3);
+            view.constrain(6, 2, 1, 1, 3);
+            view.suggest(4, 5);
+            CHECK.due("place(4)", view.place(4), 5);
+            view.hide(1, true);
+            view.paint();
+            CHECK.due("place(4), no solving since", view.place(4), 5);
+            switch (way) {
+                case 0 -> view.constrain(7, 6, 0, 1, 3);
+                case 1 -> view.remove(1);
+                case 2 -> view.suggest(6, 4);
+                case 3 -> view.resize(20, 12);
+                default -> view.suggest(1, 5);
+            }
+            CHECK.due("place(4), way " + way, view.place(4), 2);
+        }
+    }
+
+    private static void suggestAtItsBounds() {
+        CHECK.part("promise 5, \"-99 .. 99\" and the last edge");
+        DamageView view = withBoxes(20, 12, 2);
+        int[] places = {-99, -98, 98, 99};
+        for (int place : places) {
+            CHECK.due("suggest(8, " + place + ")", view.suggest(8, place), true);
+            CHECK.due("place(8)", view.place(8), place);
+        }
+        CHECK.due("suggest(8, 100)", view.suggest(8, 100), false);
+        CHECK.due("suggest(8, -100)", view.suggest(8, -100), false);
+        CHECK.due("place(8)", view.place(8), 99);
+        CHECK.due("suggest(11, 4)", view.suggest(11, 4), true);
+        CHECK.due("suggest(12, 4)", view.suggest(12, 4), false);
+        view.box(0, 0);
+        CHECK.due("suggest(12, 4) with one box more", view.suggest(12, 4), true);
+        CHECK.due("suggest(-1, 4)", view.suggest(-1, 4), false);
+    }
+
+    private static void resizeLasts() {
+        CHECK.part("promise 6, for all later solving");
+        DamageView view = withBoxes(20, 12, 1);
+        view.resize(9, 16);
+        view.suggest(4, 3);
+        CHECK.places(view, 0, 0, 9, 0, 16);
+        view.constrain(5, 1, 0, 0, 0);
+        CHECK.places(view, 0, 0, 9, 0, 16);
+        CHECK.places(view, 1, 3, 9, 0, 0);
+        CHECK.due("resize(0, 5)", view.resize(0, 5), false);
+        view.remove(0);
+        CHECK.places(view, 0, 0, 9, 0, 16);
+        CHECK.due("width 9 is required", view.constrain(1, 0, 9, 0, 0), 0);
+        CHECK.due("resize(10, 16)", view.resize(10, 16), false);
+        CHECK.due("resize(9, 1)", view.resize(9, 1), true);
+        CHECK.places(view, 0, 0, 9, 0, 1);
+    }
+
+    private static void resizeAtItsBounds() {
+        CHECK.part("promise 6, \"1 .. 24\" and \"1 .. 16\"");
+        DamageView view = withBoxes(20, 12, 0);
+        int[][] sizes = {{1, 16}, {24, 1}, {1, 1}, {24, 16}, {2, 15}, {23, 2}};
+        for (int[] size : sizes) {
+            CHECK.due("resize" + java.util.Arrays.toString(size), view.resize(size[0], size[1]), true);
+            CHECK.places(view, 0, 0, size[0], 0, size[1]);
+            CHECK.due("hit at the last point", view.hit(size[0] - 1, size[1] - 1), 0);
+            CHECK.due("hit right of it", view.hit(size[0], 0), -1);
+            CHECK.due("hit below it", view.hit(0, size[1]), -1);
+        }
+    }
+
+    private static void resizeConflictOfOneSide() {
+        CHECK.part("promise 6, a conflict of one side");
+        DamageView view = withBoxes(20, 12, 1);
+        view.constrain(3, 7, 2, 1, 0);
+        view.constrain(6, 2, 4, 1, 0);
+        view.paint();
+        CHECK.due("resize(10, 5)", view.resize(10, 5), false);
+        CHECK.places(view, 0, 0, 20, 0, 12);
+        view.suggest(4, 3);
+        CHECK.places(view, 0, 0, 20, 0, 12);
+        CHECK.due("damage()", view.damage(), 0);
+        CHECK.due("resize(10, 6)", view.resize(10, 6), true);
+        CHECK.places(view, 1, 3, 3, 4, 4);
+        view.remove(1);
+        CHECK.due("resize(10, 5), one constraint gone", view.resize(10, 5), true);
+        CHECK.places(view, 1, 3, 3, 3, 3);
+    }
+
+    private static void errorOfATakenNumber() {
+        CHECK.part("promise 8, \"-1 if there is none\"");
+        DamageView view = withBoxes(20, 12, 1);
+        CHECK.due("error(0)", view.error(0), -1);
+        view.constrain(4, 5, 1, 1, 0);
+        CHECK.due("error(0), the one refused", view.error(0), -1);
+        view.constrain(4, 0, 5, 0, 0);
+        view.constrain(1, 4, 99, 1, 3);
+        CHECK.due("error(0), required", view.error(0), 0);
+        CHECK.due("error(1), 20 - 5 is less than 99", view.error(1), 84);
+        view.remove(0);
+        CHECK.due("error(0), taken away", view.error(0), -1);
+        CHECK.due("error(1), solved again", view.error(1), 0);
+        CHECK.due("place(4)", view.place(4), -79);
+        view.constrain(0, 4, 78, 0, 1);
+        CHECK.due("error(0), of the new one", view.error(0), 0);
+        CHECK.due("error(1)", view.error(1), 1);
     }
 }

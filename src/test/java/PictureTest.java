@@ -7,9 +7,14 @@ public final class PictureTest {
         damageOfAreas();
         damageOfHiddenAndClipped();
         damageAddsUp();
+        damageOfEveryPoint();
+        damageOfChildrenOfAMovedBox();
         paint();
         paintOfResize();
+        paintIsOfDamagedPointsAlone();
+        paintOfAChangeAndBack();
         pixel();
+        pixelsAroundTheScreen();
         CHECK.end();
     }
 
@@ -141,5 +146,88 @@ public final class PictureTest {
         CHECK.due("pixel(1, 1), not painted yet", view.pixel(1, 1), 2);
         view.paint();
         CHECK.due("pixel(1, 1)", view.pixel(1, 1), 1);
+    }
+
+    private static void damageOfEveryPoint() {
+        CHECK.part("promise 18, each point is counted once");
+        DamageView view = new DamageView(24, 16);
+        view.box(0, 0);
+        Check.spread(view, 1, 0, 24, 0, 16);
+        CHECK.due("damage(), all", view.damage(), 384);
+        view.hide(1, true);
+        view.resize(1, 1);
+        CHECK.due("damage(), all still", view.damage(), 384);
+        view.paint();
+        CHECK.due("damage(), painted", view.damage(), 0);
+        view.hide(1, false);
+        CHECK.due("damage(), one", view.damage(), 1);
+        view.resize(24, 16);
+        CHECK.due("damage(), all again", view.damage(), 384);
+    }
+
+    private static void damageOfChildrenOfAMovedBox() {
+        CHECK.part("promise 18, a child whose area changes with its parent's");
+        DamageView view = withPanel();
+        view.box(0, 1);
+        Check.spread(view, 2, 3, 9, 3, 9);
+        view.paint();
+        view.suggest(5, 4);
+        CHECK.due("damage()", view.damage(), 16);
+        CHECK.due("paint()", view.paint(), 4);
+        CHECK.due("pixel(3, 4)", view.pixel(3, 4), 3);
+        CHECK.due("pixel(4, 4)", view.pixel(4, 4), 1);
+        view.suggest(8, 0);
+        CHECK.due("damage(), within the parent", view.damage(), 6);
+        CHECK.due("paint()", view.paint(), 4);
+    }
+
+    private static void paintIsOfDamagedPointsAlone() {
+        CHECK.part("promise 19, \"at all damaged points\"");
+        DamageView view = withPanel();
+        view.suggest(5, 6);
+        CHECK.due("paint(): the points that are new", view.paint(), 4);
+        CHECK.due("damage()", view.damage(), 0);
+        CHECK.due("paint() again", view.paint(), 0);
+        CHECK.due("pixel(5, 1)", view.pixel(5, 1), 2);
+        CHECK.due("pixel(6, 1)", view.pixel(6, 1), 1);
+        CHECK.due("pixel(10, 1), never painted", view.pixel(10, 1), 0);
+        view.resize(12, 9);
+        CHECK.due("paint(): the points that are new", view.paint(), 28);
+        CHECK.due("pixel(10, 1)", view.pixel(10, 1), 1);
+        CHECK.due("pixel(12, 1)", view.pixel(12, 1), 0);
+    }
+
+    private static void paintOfAChangeAndBack() {
+        CHECK.part("promise 19, \"How many points of the frame have another colour then\"");
+        DamageView view = new DamageView(10, 8);
+        view.box(2, 0);
+        Check.spread(view, 1, 1, 5, 1, 5);
+        view.paint();
+        view.step(false);
+        view.key();
+        view.key();
+        view.press(9, 7);
+        CHECK.due("damage()", view.damage(), 16);
+        CHECK.due("paint(), as it was", view.paint(), 0);
+        CHECK.due("damage()", view.damage(), 0);
+        view.step(false);
+        view.key();
+        CHECK.due("paint(), two changes at once", view.paint(), 16);
+        view.hide(1, true);
+        CHECK.due("pixel(1, 1) until it is painted", view.pixel(1, 1), 2 + 8 + 16);
+        CHECK.due("paint()", view.paint(), 16);
+        CHECK.due("pixel(1, 1)", view.pixel(1, 1), 1);
+    }
+
+    private static void pixelsAroundTheScreen() {
+        CHECK.part("promise 20, \"-1 if that isn't on the screen\"");
+        DamageView view = new DamageView(24, 16);
+        view.paint();
+        for (int y = -1; y <= 16; y++) {
+            for (int x = -1; x <= 24; x++) {
+                boolean onScreen = x >= 0 && x <= 23 && y >= 0 && y <= 15;
+                CHECK.due("pixel(" + x + ", " + y + ")", view.pixel(x, y), onScreen ? 1 : -1);
+            }
+        }
     }
 }
