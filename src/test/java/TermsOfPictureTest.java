@@ -1,4 +1,7 @@
-/** One test for each sentence of the document's "Terms" that names a boundary of areas, picture, damage and attention. */
+/**
+ * One test for each sentence of the document's "Terms" that names a boundary of
+ * areas, picture, damage and attention.
+ */
 public final class TermsOfPictureTest {
     private static final Check CHECK = new Check();
     private static final int PANEL = 0;

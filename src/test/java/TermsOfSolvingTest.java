@@ -1,4 +1,7 @@
-/** One test for each sentence of the document's "Terms" that names a boundary of boxes, edges, constraints and solving. */
+/**
+ * One test for each sentence of the document's "Terms" that names a boundary of
+ * boxes, edges, constraints and solving.
+ */
 public final class TermsOfSolvingTest {
     private static final Check CHECK = new Check();
 
